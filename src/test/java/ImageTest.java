@@ -1,0 +1,88 @@
+/** Promises 41 and 42: image, restore. */
+public final class ImageTest {
+    public static void main(String[] args) {
+        Checks c = new Checks();
+        String text = "man a 30;man b 20;forfeit f 5;forfeit g 0;good x 2 3;owes a b 5;owes b a 4;wears 2;mends 3;";
+        MerryDuchy d = Checks.of(text);
+        c.due("restore(0)", d.restore(0), false);
+        c.due("restore(1)", d.restore(1), false);
+        c.due("image(-1)", d.image(-1), false);
+        c.due("image(2)", d.image(2), false);
+        Checks.sentence(d, "has x");
+        d.forfeit(0, 0);
+        d.buy(0, 0);
+        d.weeks(2);
+        c.due("image(0)", d.image(0), true);
+        c.due("restore(1) of nothing", d.restore(1), false);
+        c.due("an image leaves what can be undone", d.undo(), 2);
+        MerryDuchy then = Checks.of(text);
+        then.forfeit(0, 0);
+        then.buy(0, 0);
+        then.weeks(2);
+
+        d.ring();
+        d.plan(0, 6);
+        d.tax(5);
+        d.list(0);
+        Checks.tape(d, 0, 5);
+        d.fits();
+        Checks.book(d, "week 1;", 1);
+        Checks.duchy(d, "man zed 3;good q 1 1;wears 5;");
+        Checks.sentence(d, "number<9");
+        d.weeks(7);
+        c.due("image(1)", d.image(1), true);
+        Checks.sentence(d, "proud or");
+        Checks.tape(d, "abc");
+        int byteThen = d.byteAt(0);
+        int plannedThen = d.planned(0);
+        int taxThen = d.taxOf(0);
+        int tellsThen = d.tells();
+        c.due("restore(0)", d.restore(0), true);
+        DrawnTest.same(c, "restored", d, then);
+        c.due("wears", d.count(3), 2);
+        c.due("mends", d.count(4), 3);
+        c.due("forfeits", d.count(1), 2);
+        c.due("cost", d.cost(0, 0), 3);
+        c.due("cost", d.cost(1, 1), 0);
+        c.due("told PRIDE", d.man(1, 1), 20);
+        c.due("the SENTENCE", d.said(0), 0);
+        c.due("the SENTENCE", d.said(-1), 1);
+        c.due("nothing can be undone", d.undo(), -1);
+        c.due("the tape stays", d.count(5), 3);
+        c.due("the fault stays", d.fault(), 1);
+        c.due("the ring stays", d.ringAt(1), 1);
+        c.due("the plan stays", d.planned(0), plannedThen);
+        c.due("the tax stays", d.taxOf(0), taxThen);
+        c.due("tells stays", d.tells(), tellsThen);
+        c.due("the list stays", d.byteAt(0), byteThen);
+        c.due("told stays", d.told(1), 1);
+        c.due("the NAMES are back", Checks.book(d, "a does f;", 0), -1);
+        c.due("the other NAMES are not", Checks.book(d, "zed does f;", 0), -2);
+
+        d.forfeit(1, 0);
+        c.due("restore(1)", d.restore(1), true);
+        c.due("WEEK", d.now(0), 7);
+        c.due("men", d.count(0), 1);
+        c.due("wears", d.count(3), 5);
+        c.due("said", d.said(-1), 1);
+        c.due("nothing can be undone", d.undo(), -1);
+        c.due("restore(0) again", d.restore(0), true);
+        DrawnTest.same(c, "restored again", d, then);
+        c.due("restore(2)", d.restore(2), false);
+        c.due("restore(-1)", d.restore(-1), false);
+        d.weeks(1);
+        d.image(0);
+        d.weeks(1);
+        d.restore(0);
+        c.due("the later image", d.now(0), 3);
+        c.due("a failed restore leaves what can be undone", d.weeks(1) + (d.restore(9) ? 1 : 0) + d.undo(), 1);
+        MerryDuchy e = new MerryDuchy();
+        e.image(0);
+        Checks.duchy(e, "man a 1;");
+        Checks.sentence(e, "proud");
+        e.restore(0);
+        c.due("an image of an empty DUCHY", e.count(0), 0);
+        c.due("without a SENTENCE", e.said(-1), -1);
+        c.end("ImageTest");
+    }
+}
