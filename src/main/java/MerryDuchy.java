@@ -838,7 +838,6 @@ public final class MerryDuchy {
             copyRow(from.counts, counts);
             System.arraycopy(from.names, 0, names, 0, SORTS * MOST);
             copyRow(from.told, told);
-            copyRow(from.bites, bites);
             copyRow(from.minds, minds);
             copyRow(from.worths, worths);
             wears = from.wears;

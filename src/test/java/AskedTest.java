@@ -175,6 +175,13 @@ public final class AskedTest {
         c.due("another FORFEIT", fits(e, 0, 20, 1, 20), -1);
         c.due("255", fits(e, 255, 20), -1);
         c.due("paid 255", fits(e, 0, 255), 0);
+        // a COST of 20 is one number more
+        MerryDuchy dear = Checks.of("man a 9;man b 9;man e 9;forfeit f 20;forfeit g 5;forfeit h 20;minds a g 4;minds a h 1;minds b h 2;wears 0;");
+        c.due("all", fits(dear, 0, 20), 7);
+        c.due("h parts all", dear.tells(), 2);
+        Checks.duchy(dear, "man a 9;man b 9;man e 9;forfeit f 20;forfeit g 5;minds a g 4;wears 0;");
+        c.due("all", fits(dear, 0, 20), 7);
+        c.due("g parts one", dear.tells(), 1);
         // who does not mind it next is parted from who does, and is one more number
         MerryDuchy zero = Checks.of("man a 9;man b 9;man e 9;forfeit f 5;forfeit g 1;forfeit h 0;minds a h 3;minds b h 4;wears 0;");
         c.due("all", fits(zero, 0, 5), 7);
@@ -249,6 +256,9 @@ public final class AskedTest {
         tax(all, 120, 20, 0, 0, 0, 0, 0, 0);
         tax(all, 121, -1, 0);
         tax(all, 100, 20, 0, 0, 0, 0, 0, -1);
+        Checks.duchy(all, "man a 20;man b 20;forfeit f 3;");
+        tax(all, 6, 3, 0, 0, -1);
+        tax(all, 7, -1, 0, 0);
     }
 
     private static void lists() {

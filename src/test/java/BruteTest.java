@@ -24,7 +24,9 @@ public final class BruteTest {
                 askPlan(d, when, m);
                 askLasts(d, when, m);
             }
-            askFits(d, when);
+            for (int k = 0; k < 20; k++) {
+                askFits(d, when);
+            }
             askShare(d, when);
             askTax(d, when);
         }
@@ -43,7 +45,7 @@ public final class BruteTest {
         debts = new int[men][men];
         done = new int[men][forfeits];
         pride = new int[men];
-        int greatest = 1 + upTo(i % 2 == 0 ? 4 : 15);
+        int greatest = 1 + upTo(i % 2 == 0 ? 4 : 19);
         StringBuilder text = new StringBuilder("wears " + wears + ";mends 0;");
         for (int f = 0; f < forfeits; f++) {
             text.append("forfeit f").append((char) ('a' + f)).append(" 0;");
@@ -211,7 +213,7 @@ public final class BruteTest {
         if (forfeits == 0) {
             return;
         }
-        int size = 1 + upTo(3);
+        int size = 1 + upTo(9);
         int like = upTo(men - 1);
         int[] bytes = new int[2 * size];
         int[] times = new int[forfeits];

@@ -77,6 +77,9 @@ public final class DrawnTest {
             odds(text, 5);
             odds(text, Integer.MAX_VALUE - 3);
         }
+        for (int seed = 0; seed < 20; seed++) {
+            odds("man a 99;man b 99;forfeit f 3;good x " + (9 + seed) + " 9;wears 0;mends 1;", 31 * seed);
+        }
         limits();
         c.end("DrawnTest");
     }

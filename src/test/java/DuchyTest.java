@@ -176,6 +176,9 @@ public final class DuchyTest {
         faulty(Checks.blanks(899) + ";" + Checks.blanks(20), 899, 1);
         faulty(Checks.blanks(898) + "man", 900, 1);
         faulty("man a 1" + Checks.blanks(893), 900, 1);
+        faulty(Checks.blanks(894) + "man a 100;", 900, 1);
+        faulty(Checks.blanks(893) + "man a 100;", 899, 2);
+        faulty("man a 1;" + Checks.blanks(888) + "man a 1;", 900, 1);
     }
 
     private static void newDuchy() {
@@ -204,5 +207,15 @@ public final class DuchyTest {
         c.due("no men", d.count(0), 0);
         Checks.duchy(d, "man a 1;forfeit f 1;");
         c.due("minds are told anew", d.cost(0, 0), 1);
+        Checks.duchy(d, "man a 5;man b 6;man e 7;forfeit f 1;good x 3 4;good y 5 6;owes a b 1;owes b a 2;owes e a 3;");
+        c.due("all PRIDE", d.now(1), 18);
+        Checks.duchy(d, "man a 1;man b 2;");
+        c.due("all PRIDE of the new one", d.now(1), 3);
+        c.due("no debts", d.now(3), 0);
+        c.due("owes nothing", d.owes(0, 1), 0);
+        c.due("no ring", d.ring(), -1);
+        Checks.duchy(d, "man a 1;man b 2;owes a b 7");
+        Checks.duchy(d, "man a 1;man b 2;owes a b 8;");
+        c.due("nothing of a DUCHY with a FAULT is left", d.owes(0, 1), 8);
     }
 }

@@ -55,6 +55,16 @@ public final class SentenceTest {
         c.due("of nobody", Checks.sentence(d, "not proud"), 2);
         c.due("how many", d.said(-1), 0);
         c.due("which", d.said(0), -1);
+        MerryDuchy six = Checks.of("man a 9;man b 9;man e 9;man g 9;man h 9;man i 9;owes a i 1;owes b h 1;owes i g 1;");
+        int[] owing = {-1, -1, -1, 5, 1, 0};
+        String names = "abeghi";
+        for (int k = 0; k < 6; k++) {
+            Checks.sentence(six, "owing " + names.charAt(k));
+            c.due("owing " + names.charAt(k), six.said(0), owing[k]);
+        }
+        Checks.sentence(six, "number>0");
+        c.due("the last one", six.said(4), 5);
+        c.due("behind the last", six.said(5), -1);
         MerryDuchy moves = Checks.of(DUCHY);
         Checks.sentence(moves, "did f");
         c.due("nobody yet", moves.said(-1), 0);

@@ -95,6 +95,15 @@ public final class StateTest {
         }
         c.due("count(6)", d.count(6), -1);
         c.due("count(-1)", d.count(-1), -1);
+        MerryDuchy buyer = Checks.of("man a 30;man b 9;forfeit f 9;good x 1 9;good y 1 9;good z 1 9;");
+        buyer.forfeit(0, 0);
+        buyer.forfeit(1, 0);
+        buyer.buy(0, 0);
+        buyer.buy(0, 1);
+        buyer.buy(0, 2);
+        buyer.buy(1, 1);
+        now(buyer, 0, 21, 14, 0, 2, 4);
+        man(buyer, 1, 0, 9, 8, 0, 0, 2, 1, 9);
         MerryDuchy unworn = Checks.of("man a 30;forfeit f 5;wears 0;");
         unworn.forfeit(0, 0);
         c.due("wears 0", unworn.cost(0, 0), 5);
