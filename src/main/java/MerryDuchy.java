@@ -827,7 +827,8 @@ public final class MerryDuchy {
 
         int costAfter(int m, int f, int times) {
             int minded = minds[m * MOST + f];
-            return minded == 0 ? 0 : Math.max(1, minded - wears * times);
+            int worn = minded - wears * times;
+            return minded == 0 ? 0 : worn < 1 ? 1 : worn;
         }
 
         int costNow(State from, int m, int f) {
