@@ -83,6 +83,17 @@ public final class ActEdgesTest {
         c.due("nothing to undo", d.undo(), -1);
         c.due("an image stays", d.restore(1), true);
         c.due("its WEEK", d.now(0), 2);
+        Checks.sentence(d, "proud");
+        c.due("a smaller one", Checks.duchy(d, "man a 5;forfeit f 3;"), 2);
+        int[] small = {0, 5, 0, 0, 0, 0};
+        for (int what = 0; what < 6; what++) {
+            c.due("a smaller one: now(" + what + ")", d.now(what), small[what]);
+        }
+        c.due("no SENTENCE of the one ahead", d.said(-1), -1);
+        c.due("no debts of the one ahead", d.man(0, 3) + d.man(0, 4), 0);
+        for (int t = 4; t <= 40; t++) {
+            c.due("no TAX of the one ahead: tax(" + t + ")", d.tax(t), -1);
+        }
     }
 
     /** Promise 2: «Twenty bytes come behind the tape, of each number the highest first» */
@@ -232,6 +243,10 @@ public final class ActEdgesTest {
             c.due("now(" + what + ")", d.now(what), now[what]);
         }
         c.due("now(-1)", d.now(-1), -1);
+        d.forfeit(0, 0);
+        d.buy(0, 0);
+        c.due("of the first MAN too", d.now(4), 3);
+        c.due("of the first GOOD too", d.now(5), 2);
     }
 
     /** «1 its COST is 0; 2 his PRIDE is less» */
@@ -306,6 +321,7 @@ public final class ActEdgesTest {
         c.due("CREDIT as great as n", d.repay(0, 2, 5), 0);
         c.due("he owes so much less", d.owes(0, 2), 4);
         c.due("that one's CREDIT", d.man(2, 2), 5);
+        c.due("no more his", d.man(0, 2), 0);
         d.forfeit(0, 0);
         c.due("owes as much as n", d.repay(0, 1, 4), 0);
         c.due("owes nothing then", d.owes(0, 1), 0);

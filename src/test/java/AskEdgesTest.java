@@ -30,6 +30,7 @@ public final class AskEdgesTest {
         latestList();
         drawsWrap();
         drawsOfNone();
+        drawsRepay();
         drawnBounds();
         oddsBounds();
         oddsWrap();
@@ -123,6 +124,11 @@ public final class AskEdgesTest {
         MerryDuchy e = Checks.of("man a 99;forfeit f 1;forfeit h 3;wears 0;");
         plan(e, 0, 80, 80, 20, 20);
         plan(e, 0, 81, -1);
+        MerryDuchy second = Checks.of("man a 99;man b 99;forfeit f 9;forfeit h 9;wears 3;");
+        second.forfeit(1, 1);
+        plan(second, 1, 7, 9, 1, 0);
+        plan(second, 1, 6, 6, 0, 1);
+        plan(second, 0, 6, 9, 0, 1);
     }
 
     /** «the least that they pay in all; of like ones the fewest times in all; then the first: FORFEIT by FORFEIT the fewest» */
@@ -242,6 +248,16 @@ public final class AskEdgesTest {
         MerryDuchy one = Checks.of("man a 9;forfeit f 5;forfeit h 5;");
         c.due("one MAN", fits(one, 1, 5), 1);
         c.due("all alike: the first", one.tells(), 0);
+        MerryDuchy dear = Checks.of("man a 9;man b 9;man e 9;forfeit f 5;forfeit h 20;forfeit i 1;minds a i 2;minds b h 19;wears 0;");
+        c.due("all three", fits(dear, 0, 5), 7);
+        c.due("h and i part one of them: the first", dear.tells(), 1);
+        MerryDuchy like = Checks.of("man a 9;man b 9;man e 9;forfeit f 5;forfeit h 20;forfeit i 1;minds a i 2;wears 0;");
+        c.due("all three", fits(like, 0, 5), 7);
+        c.due("20 for all parts none", like.tells(), 2);
+        MerryDuchy done = Checks.of("man a 99;man b 99;forfeit f 5;forfeit h 7;wears 1;");
+        done.forfeit(1, 1);
+        c.due("both", fits(done, 0, 5), 3);
+        c.due("what one of them has done parts them", done.tells(), 1);
         // behind these: the COST is the next one
         MerryDuchy worn = Checks.of("man a 9;man b 9;forfeit f 3;forfeit h 4;minds b h 5;wears 3;");
         c.due("both", fits(worn, 0, 3), 3);
@@ -287,6 +303,7 @@ public final class AskEdgesTest {
         c.due("no such MAN", d.share(9, 15, -1), -1);
         c.due("a MAN whose bit wraps", d.share(9, 15, 32), -1);
         c.due("nobody has any", d.share(999, 12, 2), 0);
+        c.due("one has 1", Checks.of("man a 0;man b 1;").share(999, 3, 1), 999);
         c.due("he has none", d.share(999, 5, 2), 0);
         MerryDuchy six = Checks.of("man a 99;man b 99;man e 99;man g 99;man h 99;man i 99;");
         c.due("the last of six", six.share(999, 63, 5), 166);
@@ -363,6 +380,10 @@ public final class AskEdgesTest {
         tax(d, 9, 4, 1, 1, 2);
         tax(d, 13, 6, 0, 0, 2);
         tax(d, 15, 6, 0, 0, 1);
+        // each MAN does one, not one and another one, nor one twice
+        tax(Checks.of("man a 9;forfeit f 2;forfeit h 5;wears 0;"), 4, 5, 1);
+        tax(Checks.of("man a 9;forfeit f 2;forfeit h 4;wears 0;"), 4, 4, 1);
+        tax(Checks.of("man a 9;forfeit f 2;forfeit h 4;wears 0;"), 5, -1, -1);
         MerryDuchy like = Checks.of("man a 9;man b 9;forfeit f 3;forfeit h 3;wears 0;");
         tax(like, 3, 3, 0, -1);
         tax(like, 4, 3, 0, 0);
@@ -416,6 +437,8 @@ public final class AskEdgesTest {
         list(Checks.of("man abcdefg 99;forfeit tuvwxyz 20;"), 0, "abcdefg would tuvwxyz for 20");
         list(Checks.of("man a 9;forfeit x 9;"), 0, "a would x for 9");
         list(Checks.of("man a 9;"), 0, "a would not");
+        list(Checks.of("man a 19;forfeit x 20;forfeit y 19;"), 0, "a would y for 19");
+        list(Checks.of("man a 1;forfeit x 2;forfeit y 1;"), 0, "a would y for 1");
         MerryDuchy worn = Checks.of("man a 99;forfeit x 11;forfeit y 10;wears 1;");
         list(worn, 0, "a would y for 10");
         worn.forfeit(0, 0);
@@ -499,6 +522,30 @@ public final class AskEdgesTest {
         }
     }
 
+    /** «3 a draw of all MEN: he repays 1»: two who owe one another draw 0 or 1, of which one is himself. */
+    private static void drawsRepay() {
+        int paid = 0;
+        x = 5;
+        for (int week = 0; week < 60 && paid < 3; week++) {
+            int first = draw(4);
+            int whom = first == 3 ? draw(2) : 0;
+            if (first == 1) {
+                draw(1);
+            }
+            paid += first == 3 && whom == 1 ? 1 : 0;
+            int second = draw(4);
+            if (second == 1 || second == 3) {
+                draw(second == 1 ? 1 : 2);
+            }
+            MerryDuchy e = Checks.of("man a 9;man b 0;forfeit f 9;owes a b 3;wears 0;mends 0;");
+            e.forfeit(0, 0);
+            e.drawn(week + 1, 5);
+            c.due("owes behind " + (week + 1) + " WEEKS", e.owes(0, 1), 3 - paid);
+            c.due("CREDIT behind " + (week + 1) + " WEEKS", e.man(0, 2), 9 - paid);
+        }
+        c.due("all was paid", paid, 3);
+    }
+
     /** Promise 35: «n (1 to 60) WEEKS DRAWN by a seed: how many went by; NONE: not as told, no MEN» */
     private static void drawnBounds() {
         MerryDuchy d = Checks.of("man a 9;forfeit f 1;");
@@ -572,6 +619,11 @@ public final class AskEdgesTest {
         c.due("who has some by now", d.odds(0, 30, 5), 30);
         c.due("the other one", d.odds(1, 30, 5), 0);
         c.due("no GOODS", Checks.of("man a 99;forfeit f 1;").odds(0, 30, 5), 0);
+        for (int dear = 1; dear <= 9; dear++) {
+            String text = SELLS.replace("good x 1 9;", "good y 1 0;good x " + dear + " 9;");
+            c.due("20 WEEKS for " + dear, Checks.of(text).odds(0, 30, 5), lucky(text, 0, 0, 30, 5));
+            c.due("20 WEEKS of the other one", Checks.of(text).odds(1, 30, 5), lucky(text, 0, 1, 30, 5));
+        }
     }
 
     /** Promise 36: «seeds x, x and 1, ..»: behind the greatest int comes the least. */

@@ -9,23 +9,26 @@ public final class DrawnTest {
     }
 
     /** The same by forfeit(), buy(), repay() and weeks(). */
-    private static void byHand(MerryDuchy d, int weeks, int seed) {
+    static void byHand(MerryDuchy d, int weeks, int seed) {
+        int men = d.count(0);
+        int forfeits = d.count(1);
+        int goods = d.count(2);
         x = seed;
         for (int w = 0; w < weeks; w++) {
-            for (int m = 0; m < d.count(0); m++) {
+            for (int m = 0; m < men; m++) {
                 switch (draw(4)) {
                     case 1:
-                        if (d.count(1) > 0) {
-                            d.forfeit(m, draw(d.count(1)));
+                        if (forfeits > 0) {
+                            d.forfeit(m, draw(forfeits));
                         }
                         break;
                     case 2:
-                        if (d.count(2) > 0) {
-                            d.buy(m, draw(d.count(2)));
+                        if (goods > 0) {
+                            d.buy(m, draw(goods));
                         }
                         break;
                     case 3:
-                        d.repay(m, draw(d.count(0)), 1);
+                        d.repay(m, draw(men), 1);
                         break;
                     default:
                         break;

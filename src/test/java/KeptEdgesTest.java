@@ -21,6 +21,7 @@ public final class KeptEdgesTest {
         orAndNot();
         saidOfWhom();
         sentenceStays();
+        allTwentyOnes();
         places();
         restored();
         counts();
@@ -285,6 +286,28 @@ public final class KeptEdgesTest {
         d.weeks(1);
         d.undo();
         c.due("undo() leaves it", d.said(0), 2);
+        Checks.sentence(d, "not number=0");
+        Checks.sentence(d, "number=0");
+        c.due("a shorter one behind a longer", d.said(0), 0);
+        c.due("a shorter one behind a longer", d.said(-1), 1);
+    }
+
+    /** «20 ONES»: the last of them counts as much as the first. */
+    private static void allTwentyOnes() {
+        String text = "man a 9;man b 9;man e 9;good x 1 0;";
+        MerryDuchy d = Checks.of(text);
+        c.due("20 by 'or'", Checks.sentence(d, "has x or ".repeat(19) + "number=1"), 20);
+        c.due("the last", d.said(0), 1);
+        c.due("no other", d.said(-1), 1);
+        c.due("20 by 'or'", Checks.sentence(d, "number=1" + " or has x".repeat(19)), 20);
+        c.due("the first", d.said(0), 1);
+        c.due("20 by 'and'", Checks.sentence(d, "proud and ".repeat(19) + "number=2"), 20);
+        c.due("the last", d.said(0), 2);
+        c.due("20 by both", Checks.sentence(d, "has x or " + "proud and ".repeat(18) + "number=2"), 20);
+        c.due("the last", d.said(0), 2);
+        c.due("20 with 'not'", Checks.sentence(d, "not proud or ".repeat(9) + "not number<2"), 20);
+        c.due("the last", d.said(0), 2);
+        c.due("no other", d.said(-1), 1);
     }
 
     /** Promises 41, 42: «kept in place k (0, 1): true; false: no such one», «or nothing is kept there» */

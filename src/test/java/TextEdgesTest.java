@@ -32,6 +32,7 @@ public final class TextEdgesTest {
         firstAlong();
         leastOfOneToken();
         atTheEnd();
+        cutTapes();
         mostBytes();
         beginAheadOfIt();
         faultOfTheLatest();
@@ -374,6 +375,10 @@ public final class TextEdgesTest {
                 badBook("|" + word + " does jig;", 1);
             }
             badBook("ann does |" + word + ";", 1);
+            if (!word.equals("does") && !word.equals("buys") && !word.equals("lends") && !word.equals("repays")) {
+                badBook("ann |" + word + " bob 1;", 1);
+                badBook("ann |" + word + " jig;", 1);
+            }
         }
     }
 
@@ -525,6 +530,35 @@ public final class TextEdgesTest {
         badSentenceAt(9, "(proud \n ", 1);
     }
 
+    /** Promise 3: «its first n bytes alone»: what was on the tape behind them is no part of a text. */
+    private static void cutTapes() {
+        MerryDuchy d = Twins.lived();
+        Checks.tape(d, "prouder or has hat");
+        d.end(5);
+        c.due("'proud'er", d.sentence(), 1);
+        Checks.tape(d, "pride<1000");
+        d.end(9);
+        c.due("'pride<100'0", d.sentence(), 1);
+        c.due("below 100", d.said(-1), 3);
+        Checks.tape(d, "proud ;");
+        d.end(6);
+        c.due("'proud ';", d.sentence(), 1);
+        Checks.tape(d, "week 1;week 2;");
+        d.end(7);
+        c.due("'week 1;'week 2;", d.book(1), -1);
+        c.due("one LINE", d.told(1), 1);
+        Checks.tape(d, "man a 12;");
+        d.end(7);
+        c.due("'man a 1'2;", d.duchy(), -1 - 7);
+        Checks.tape(d, "man a 1;man b 2;");
+        d.end(8);
+        c.due("'man a 1;'man b 2;", d.duchy(), 1);
+        d.end(0);
+        d.feed(0, 0, 0, 0, 0);
+        d.end(0);
+        c.due("nothing of 20 bytes", d.duchy(), 0);
+    }
+
     /** «at most 900 bytes», «400», «200»: 1 «the most bytes told, if there are more and no FAULT is ahead» */
     private static void mostBytes() {
         duchy("man a 1;" + Checks.blanks(892), 1);
@@ -538,6 +572,10 @@ public final class TextEdgesTest {
         badDuchyAt(6, "man a 100;" + Checks.blanks(930), 2);
         badDuchyAt(899, Checks.blanks(899) + ";" + Checks.blanks(5), 1);
         badDuchyAt(900, "man a 1" + Checks.blanks(893), 1);
+        badDuchyAt(900, "man a 1" + Checks.blanks(894), 1);
+        badDuchyAt(900, "good g 50" + Checks.blanks(900), 1);
+        MerryDuchy fresh = new MerryDuchy();
+        c.due("a new object's first text, all blanks", Checks.duchy(fresh, Checks.blanks(901)), -901);
         book("week 1;" + Checks.blanks(393), -1, 1);
         book(Checks.blanks(393) + "week 1;", -1, 1);
         badBookAt(400, "week 1;" + Checks.blanks(394), 1);
