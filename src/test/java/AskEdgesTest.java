@@ -258,6 +258,25 @@ public final class AskEdgesTest {
         done.forfeit(1, 1);
         c.due("both", fits(done, 0, 5), 3);
         c.due("what one of them has done parts them", done.tells(), 1);
+        // by these one FORFEIT is done, not the others, which would be worn alike by once more
+        MerryDuchy others = Checks.of("man a 9;man b 9;forfeit f 3;forfeit h 5;forfeit i 3;minds b f 2;minds b i 2;wears 2;");
+        c.due("both", fits(others, 1, 5), 3);
+        c.due("f parts them, not done by these", others.tells(), 0);
+        c.due("both", fits(others, 1, 5, 1, 3, 1, 1), 3);
+        c.due("f parts them, not done by these", others.tells(), 0);
+        MerryDuchy last = Checks.of("man a 9;man b 9;forfeit f 3;forfeit h 5;forfeit i 3;minds b i 2;wears 2;");
+        c.due("both", fits(last, 1, 5, 0, 3), 3);
+        c.due("i parts them, not done by these", last.tells(), 2);
+        // what was paid is no FORFEIT
+        MerryDuchy paid = Checks.of("man a 9;man b 9;forfeit f 1;forfeit h 3;minds b h 2;wears 2;");
+        c.due("both", fits(paid, 0, 1), 3);
+        c.due("h parts them", paid.tells(), 1);
+        c.due("both", fits(paid, 0, 1, 0, 1), 3);
+        c.due("h parts them", paid.tells(), 1);
+        MerryDuchy least = Checks.of("man a 9;man b 9;forfeit h 5;forfeit f 2;minds b f 1;wears 2;");
+        least.forfeit(0, 1);
+        c.due("both by 1 at least", fits(least, 1, 1), 3);
+        c.due("1 for both next: the first", least.tells(), 0);
         // behind these: the COST is the next one
         MerryDuchy worn = Checks.of("man a 9;man b 9;forfeit f 3;forfeit h 4;minds b h 5;wears 3;");
         c.due("both", fits(worn, 0, 3), 3);

@@ -117,6 +117,9 @@ public final class TextEdgesTest {
         badDuchy("man a |4294967297;", 1);
         badDuchy("man a |999;", 2);
         badDuchy("man a |1000;", 1);
+        // no TOKEN, though its digits are the number of a sign's byte
+        badDuchy("man a 1 |0059", 1);
+        badSentence("pride |0060 5", 1);
         book("week 001;", -1, 1);
         badBook("week |0001;", 1);
         sentence("pride<001", 1);
