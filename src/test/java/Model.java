@@ -9,8 +9,8 @@ import java.util.regex.Matcher;
 import java.util.regex.Pattern;
 
 /**
- * The document once more, written without a look at MerryDuchy and with the whole library: slow, and plain where the
- * class is sparing. ModelTest asks both the same.
+ * The document once more, with the whole library: slow, and plain where the class is sparing. ModelTest asks both the
+ * same. It was written behind the class and by the same hand, so it finds slips of the code, not words read wrongly.
  */
 final class Model {
     private static final List<String> WORDS = List.of("man", "forfeit", "minds", "good", "owes", "wears", "mends", "does",
